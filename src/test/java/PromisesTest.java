@@ -57,7 +57,6 @@ public final class PromisesTest {
         due.end();
     }
 
-    /** Run as a call without an answer. */
     private static void thrownByPrecinct(CountHouse x, Class<? extends RuntimeException> want,
             int p, int home, int register) {
         due.thrown("precinct(" + p + ", " + home + ", " + register + ")", want, () -> {
@@ -391,7 +390,6 @@ public final class PromisesTest {
         report(x, 0, 1, 1);
         report(x, 1, 2, 2);
         report(x, 2, 4, 4);
-        deliverAll(x);
         deliverAll(x);
         report(x, 3, 2, 8);
         x.move(2, 1);
@@ -1219,9 +1217,9 @@ public final class PromisesTest {
         y.hang(2, 0);
         report(y, 0, 1, 1);
         y.deliver(0);
-        y.precinct(1, 2, 10);
         y.move(0, 2);
         y.deliver(1);
+        due.is("one that waits", y.isAtRest(), false);
         y.hang(1, 3);
         deliverAll(y);
         due.is("isAtRest()", y.isAtRest(), true);
