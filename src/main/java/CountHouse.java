@@ -294,7 +294,18 @@ public final class CountHouse {
         Letter letter = post.get(i);
         // Gone before it is read: what the parent tells further has its place among the 500.
         post.remove(i);
-        return takes(letter);
+        Office sender = offices[letter.sender];
+        if (sender.parent == NONE || sender.epoch != letter.epoch || sender.taken + 1 != letter.number) {
+            return false;
+        }
+        sender.taken++;
+        Office at = offices[sender.parent];
+        if (letter.change.now == null) {
+            takeBack(at, sender, letter.change.ofPrecinct);
+        } else {
+            takeIn(at, sender, letter.change);
+        }
+        return true;
     }
 
     public int drop(int i) throws IndexOutOfBoundsException {
@@ -580,22 +591,6 @@ public final class CountHouse {
         if (post.size() < MOST_LETTERS) {
             post.add(new Letter(sender.number, sender.epoch, number, change));
         }
-    }
-
-    /** Whether the parent takes the letter; it does then what the change asks. */
-    private boolean takes(Letter letter) {
-        Office sender = offices[letter.sender];
-        if (sender.parent == NONE || sender.epoch != letter.epoch || sender.taken + 1 != letter.number) {
-            return false;
-        }
-        sender.taken++;
-        Office at = offices[sender.parent];
-        if (letter.change.now == null) {
-            takeBack(at, sender, letter.change.ofPrecinct);
-        } else {
-            takeIn(at, sender, letter.change);
-        }
-        return true;
     }
 
     private void takeIn(Office at, Office child, Change change) {
