@@ -1,18 +1,5 @@
 /** Each promise of the document: ordinary inputs, the edges that it names, and wrong inputs. */
-public final class PromisesTest {
-    private static final Class<IndexOutOfBoundsException> INDEX = IndexOutOfBoundsException.class;
-    private static final Class<IllegalArgumentException> ARGUMENT = IllegalArgumentException.class;
-    private static final Class<IllegalStateException> STATE = IllegalStateException.class;
-    private static final Class<UnsupportedOperationException> LIMIT = UnsupportedOperationException.class;
-    private static final int NONE = CountHouse.NONE;
-    private static final int MANY = 10000000;
-    private static final int[] NOT_OFFICES = {-1, 12, Integer.MIN_VALUE, Integer.MAX_VALUE};
-    private static final int[] NOT_PRECINCTS = {-1, 40, Integer.MIN_VALUE, Integer.MAX_VALUE};
-    private static final int[] NOT_OPTIONS = {-1, 6, Integer.MIN_VALUE, Integer.MAX_VALUE};
-    private static final int[] NOT_COUNTS = {-1, MANY + 1, Integer.MIN_VALUE, Integer.MAX_VALUE};
-
-    private static final Due due = new Due();
-
+public final class PromisesTest extends Cases {
     public static void main(String[] args) {
         newObject();
         precinct();
@@ -55,46 +42,6 @@ public final class PromisesTest {
         isAtRest();
         astray();
         due.end();
-    }
-
-    private static void thrownByPrecinct(CountHouse x, Class<? extends RuntimeException> want,
-            int p, int home, int register) {
-        due.thrown("precinct(" + p + ", " + home + ", " + register + ")", want, () -> {
-            x.precinct(p, home, register);
-            return "nothing";
-        });
-    }
-
-    /** A precinct with a version 1 that has these votes for option 0. */
-    private static void report(CountHouse x, int p, int home, int votes) {
-        x.precinct(p, home, 1000);
-        next(x, p, 1, votes);
-    }
-
-    private static int next(CountHouse x, int p, int v, int votes) {
-        x.votes(0, votes);
-        return x.version(p, v, 0, 1000);
-    }
-
-    private static void deliverAll(CountHouse x) {
-        for (int i = 0; i < 200 && x.letters() > 0; i++) {
-            x.deliver(0);
-        }
-    }
-
-    private static void letterIs(CountHouse x, int i, int office, int epoch, int number, int p, int v) {
-        String got = x.letter(i, 0) + " " + x.letter(i, 1) + " " + x.letter(i, 2) + " " + x.letter(i, 3)
-                + " " + x.letter(i, 4);
-        due.is("letter " + i, got, office + " " + epoch + " " + number + " " + p + " " + v);
-    }
-
-    private static void shows(CountHouse x, int office, int p, int v, int through) {
-        due.is("included(" + office + ", " + p + ")", x.included(office, p), v);
-        due.is("through(" + office + ", " + p + ")", x.through(office, p), through);
-    }
-
-    private static void officeIs(CountHouse x, int office, int what, int want) {
-        due.is("office(" + office + ", " + what + ")", x.office(office, what), want);
     }
 
     private static void newObject() {
@@ -1111,21 +1058,6 @@ public final class PromisesTest {
         due.is("newest(39)", x.newest(39), 8);
         x.move(39, 3);
         due.is("newest(39)", x.newest(39), 8);
-    }
-
-    private static void vote(CountHouse x, int p, int home, int... votes) {
-        x.precinct(p, home, MANY);
-        for (int option = 0; option < votes.length; option++) {
-            x.votes(option, votes[option]);
-        }
-        x.version(p, 1, 0, MANY);
-    }
-
-    private static void seatsAre(CountHouse x, int office, int n, int rule, int... want) {
-        for (int option = 0; option < want.length; option++) {
-            due.is("seats(" + office + ", " + n + ", " + rule + ", " + option + ")",
-                    x.seats(office, n, rule, option), want[option]);
-        }
     }
 
     private static void seats() {
