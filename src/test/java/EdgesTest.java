@@ -57,6 +57,7 @@ public final class EdgesTest extends Cases {
         resendHangsNowhere();
         lettersHowMany();
         letterWhat();
+        the512thCall();
         due.end();
     }
 
@@ -974,5 +975,18 @@ public final class EdgesTest extends Cases {
             due.thrown("letter(0, " + wrong + ")", ARGUMENT, () -> x.letter(0, wrong));
         }
         due.is("letters()", x.letters(), 1);
+    }
+
+    private static void the512thCall() {
+        due.part("'at most 512 calls': the last ones answer as the first");
+        CountHouse x = new CountHouse();
+        x.precinct(0, 1, 5);
+        x.hang(1, 0);
+        for (int v = 1; v <= 254; v++) {
+            due.is("version " + v, x.version(0, v, 0, 0), 0);
+            due.is("letters()", x.letters(), v);
+        }
+        due.is("call 511", x.included(1, 0), 254);
+        due.is("call 512", x.deliver(0), true);
     }
 }

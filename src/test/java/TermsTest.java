@@ -10,6 +10,7 @@ public final class TermsTest extends Cases {
         markOfMoreBallots();
         markOfLessVotes();
         markOfMoreVotesThanBallots();
+        marksTogether();
 
         officesAre0To11();
         upOrDown();
@@ -24,6 +25,8 @@ public final class TermsTest extends Cases {
         lineBeginsAnewEmpty();
         sentIfLessThan500();
         sentAtHangingIfLessThan500();
+        sentByTwoIfLessThan500();
+        sentByOneThatTriesIfLessThan500();
 
         letterOfAnEpochAndNumber();
         takenOfThisEpochOnly();
@@ -48,6 +51,8 @@ public final class TermsTest extends Cases {
         tryingAsLongAsItGoes();
         tryingBehindAllThatGoes();
         tryingWhenSomethingWaitsNoMore();
+        tryingAtTheOldHome();
+        tryingAtTheOldParent();
         takenAwayByPrecincts();
         takenAwayForgetsWhatWaits();
         takenAwayHangsNowhere();
@@ -238,6 +243,22 @@ public final class TermsTest extends Cases {
             x.votes(option, MANY);
         }
         due.is("the most of all", x.version(6, 3, MANY, MANY), 5);
+    }
+
+    private static void marksTogether() {
+        due.part("'A version has MARKS': several at once");
+        for (int marks = 0; marks < 8; marks++) {
+            CountHouse x = new CountHouse();
+            x.precinct(0, 0, 50);
+            x.votes(3, 10);
+            due.is("the version before", x.version(0, 1, 0, 50), 0);
+            int ballots = 50 + (marks & 1);
+            int votes = 10 - (marks >> 1 & 1);
+            int invalid = ballots - votes + (marks >> 2 & 1);
+            x.votes(3, votes);
+            due.is("marks", x.version(0, 2, invalid, ballots), marks);
+            due.is("marked(0)", x.marked(0), marks == 0 ? 0 : 1);
+        }
     }
 
     private static void officesAre0To11() {
@@ -502,6 +523,52 @@ public final class TermsTest extends Cases {
             due.is("the first of both is sent", x.letter(498, 0) == 2 || x.letter(499, 0) == 2, room > 0);
             due.is("the second is sent", x.letter(499, 2) == 2 && x.letter(499, 0) == 2, room > 1);
         }
+    }
+
+    private static void sentByTwoIfLessThan500() {
+        due.part("'if there are less than 500': both homes of a precinct that moves");
+        for (int room = 0; room < 3; room++) {
+            CountHouse x = withLetters(500);
+            x.hang(2, 0);
+            for (int i = 0; i < room; i++) {
+                x.drop(0);
+            }
+            x.move(5, 2);
+            due.is("letters()", x.letters(), 500);
+            officeIs(x, 1, LINE, 40);
+            officeIs(x, 2, LINE, 1);
+            if (room > 0) {
+                letterIs(x, 500 - room, 1, 12, 40, 5, 0);
+            }
+            if (room > 1) {
+                letterIs(x, 499, 2, 1, 1, 5, 1);
+            }
+            due.is("the new home's is sent", x.letter(499, 0) == 2, room > 1);
+        }
+    }
+
+    private static void sentByOneThatTriesIfLessThan500() {
+        due.part("'if there are less than 500': a letter that is gone makes room for one of two");
+        CountHouse x = new CountHouse();
+        x.hang(2, 1);
+        x.hang(3, 1);
+        report(x, 39, 2, 1);
+        x.deliver(0);
+        x.move(39, 3);
+        x.deliver(1);
+        officeIs(x, 1, WAITING, 1);
+        for (int p = 0; p < 39; p++) {
+            report(x, p, 1, p);
+        }
+        for (int i = 0; i < 13; i++) {
+            x.hang(1, 0);
+        }
+        due.is("letters()", x.letters(), 500);
+        due.is("deliver(0)", x.deliver(0), true);
+        shows(x, 1, 39, 1, 3);
+        officeIs(x, 1, LINE, 42);
+        due.is("letters()", x.letters(), 500);
+        letterIs(x, 499, 1, 13, 41, 39, 0);
     }
 
     private static void letterOfAnEpochAndNumber() {
@@ -992,6 +1059,37 @@ public final class TermsTest extends Cases {
         shows(x, 0, 1, 1, 2);
         shows(x, 0, 0, 1, 1);
         officeIs(x, 0, WAITING, 0);
+    }
+
+    private static void tryingAtTheOldHome() {
+        due.part("'whenever something is not included any more there': an own one that moves");
+        CountHouse x = new CountHouse();
+        x.hang(1, 0);
+        report(x, 0, 1, 10);
+        x.move(0, 0);
+        x.deliver(0);
+        shows(x, 0, 0, 1, 0);
+        officeIs(x, 0, WAITING, 1);
+        x.move(0, 5);
+        shows(x, 0, 0, 1, 1);
+        officeIs(x, 0, WAITING, 0);
+        x.deliver(0);
+        shows(x, 0, 0, 0, NONE);
+    }
+
+    private static void tryingAtTheOldParent() {
+        due.part("'whenever something is not included any more there': a child that is hung elsewhere");
+        CountHouse x = contested();
+        x.deliver(1);
+        x.hang(1, 5);
+        shows(x, 0, 0, 1, 2);
+        officeIs(x, 0, WAITING, 0);
+        due.part("'whenever something is not included any more there': a child that fails");
+        CountHouse y = contested();
+        y.deliver(1);
+        y.fail(1);
+        shows(y, 0, 0, 1, 2);
+        officeIs(y, 0, WAITING, 0);
     }
 
     private static void takenAwayByPrecincts() {

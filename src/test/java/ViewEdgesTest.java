@@ -16,6 +16,7 @@ public final class ViewEdgesTest extends Cases {
         seatsAre1To1000();
         seatsRules();
         seatsOfNoVotes();
+        seatsOfOneVote();
         seatsOneMoreThanItHas();
         seatsTwiceThatAndOneMore();
         seatsDownwardThenRests();
@@ -278,6 +279,16 @@ public final class ViewEdgesTest extends Cases {
         x.version(0, 2, 9, 10);
         for (int rule = 0; rule < 3; rule++) {
             seatsAre(x, 1, 7, rule, 0, 0, 0, 0, 0, 7);
+        }
+    }
+
+    private static void seatsOfOneVote() {
+        due.part("22 '0 when all sums are 0': one is 1");
+        for (int rule = 0; rule < 3; rule++) {
+            CountHouse x = new CountHouse();
+            vote(x, 0, 1, 0, 0, 0, 1);
+            due.is("the first that is asked", x.seats(1, 1000, rule, 3), 1000);
+            seatsAre(x, 1, 1, rule, 0, 0, 0, 1, 0, 0);
         }
     }
 
