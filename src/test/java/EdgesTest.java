@@ -42,6 +42,7 @@ public final class EdgesTest extends Cases {
         moveToOneThatIsDown();
         moveWithoutAVersion();
         moveElseItWaits();
+        moveThenAtTheNewOne();
         moveOfOneNotThereYet();
         moveItIsItsHome();
 
@@ -704,6 +705,25 @@ public final class EdgesTest extends Cases {
         y.deliver(0);
         shows(y, 0, 0, 1, 0);
         officeIs(y, 0, WAITING, 0);
+    }
+
+    private static void moveThenAtTheNewOne() {
+        due.part("8 'then at the new one': the old one tells and tries first");
+        CountHouse x = new CountHouse();
+        x.hang(1, 0);
+        x.hang(2, 1);
+        x.hang(3, 0);
+        report(x, 0, 2, 10);
+        x.move(0, 1);
+        x.deliver(0);
+        officeIs(x, 1, WAITING, 1);
+        x.drop(0);
+        x.drop(0);
+        due.is("move(0, 3)", x.move(0, 3), true);
+        due.is("letters()", x.letters(), 3);
+        letterIs(x, 0, 1, 1, 2, 0, 0);
+        letterIs(x, 1, 1, 1, 3, 0, 1);
+        letterIs(x, 2, 3, 1, 1, 0, 1);
     }
 
     private static void moveOfOneNotThereYet() {

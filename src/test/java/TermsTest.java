@@ -9,6 +9,7 @@ public final class TermsTest extends Cases {
         newestIsKnownForEver();
         markOfMoreBallots();
         markOfLessVotes();
+        markOfLessThanTheNewest();
         markOfMoreVotesThanBallots();
         marksTogether();
 
@@ -49,6 +50,7 @@ public final class TermsTest extends Cases {
         tryingOwnBeforeChildren();
         tryingChildrenByNumbers();
         tryingAsLongAsItGoes();
+        tryingOneChildBeforeTheNext();
         tryingBehindAllThatGoes();
         tryingWhenSomethingWaitsNoMore();
         tryingAtTheOldHome();
@@ -220,6 +222,21 @@ public final class TermsTest extends Cases {
         }
         x.precinct(6, 0, 500);
         due.is("another precinct's first one", x.version(6, 1, 0, 500), 0);
+    }
+
+    private static void markOfLessThanTheNewest() {
+        due.part("'the version before it', whatever is included");
+        CountHouse x = new CountHouse();
+        report(x, 0, 1, 10);
+        x.fail(1);
+        due.is("less, while nothing is included", next(x, 0, 2, 9), 2);
+        due.is("more again, less than the first", next(x, 0, 3, 9), 0);
+
+        CountHouse y = contested();
+        y.move(0, 0);
+        due.is("it waits, more", next(y, 0, 2, 20), 0);
+        due.is("it waits, less, but more than what is included", next(y, 0, 3, 15), 2);
+        shows(y, 0, 0, 1, 1);
     }
 
     private static void markOfMoreVotesThanBallots() {
@@ -1022,6 +1039,41 @@ public final class TermsTest extends Cases {
         shows(x, 0, 1, 1, 2);
         shows(x, 0, 6, 1, 2);
         officeIs(x, 0, WAITING, 0);
+    }
+
+    private static void tryingOneChildBeforeTheNext() {
+        due.part("'each one's first waiting one and so on': one child's before the next one's");
+        CountHouse x = new CountHouse();
+        x.hang(4, 0);
+        x.hang(1, 4);
+        x.hang(2, 4);
+        x.hang(3, 4);
+        report(x, 0, 1, 1);
+        report(x, 1, 1, 2);
+        x.deliver(0);
+        x.deliver(0);
+        x.move(0, 2);
+        x.move(1, 3);
+        report(x, 6, 3, 4);
+        report(x, 5, 2, 8);
+        // From the third on: 1 without 0; 2 with 0; 1 without 1; 3 with 1; 3 with 6; 2 with 5.
+        x.deliver(3);
+        x.deliver(4);
+        x.deliver(4);
+        x.deliver(4);
+        officeIs(x, 4, WAITING, 4);
+        while (x.letters() > 0) {
+            x.drop(0);
+        }
+        x.fail(1);
+        officeIs(x, 4, WAITING, 0);
+        due.is("letters()", x.letters(), 6);
+        letterIs(x, 0, 4, 1, 3, 0, 0);
+        letterIs(x, 1, 4, 1, 4, 1, 0);
+        letterIs(x, 2, 4, 1, 5, 0, 1);
+        letterIs(x, 3, 4, 1, 6, 5, 1);
+        letterIs(x, 4, 4, 1, 7, 1, 1);
+        letterIs(x, 5, 4, 1, 8, 6, 1);
     }
 
     private static void tryingBehindAllThatGoes() {
