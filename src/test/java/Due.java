@@ -33,6 +33,8 @@ final class Due {
         } catch (RuntimeException e) {
             if (e.getClass() != want) {
                 tell(call + " threw " + e.getClass().getSimpleName() + ", due is " + want.getSimpleName());
+            } else if (!isThrownByTheHouse(e)) {
+                tell(call + " let the library throw");
             }
         }
     }
@@ -41,6 +43,12 @@ final class Due {
         if (wrong != 0) {
             System.exit(1);
         }
+    }
+
+    /** The language's rule 7: only by a throw statement of its own. */
+    private static boolean isThrownByTheHouse(RuntimeException e) {
+        StackTraceElement[] trace = e.getStackTrace();
+        return trace.length > 0 && trace[0].getClassName().startsWith("CountHouse");
     }
 
     private void tell(String text) {
